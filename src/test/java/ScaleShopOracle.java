@@ -13,6 +13,7 @@ public final class ScaleShopOracle {
     private static final int RUNS = 3000;
     private static int wrong = 0;
     private static final long[] ANSWERS_BY_STATUS = new long[9];
+    private static final long[] STEPS_BY_KIND = new long[11];
 
     public static void main(String[] args) {
         int runs = args.length > 0 ? Integer.parseInt(args[0]) : RUNS;
@@ -21,6 +22,13 @@ public final class ScaleShopOracle {
             new Session(seed + run).play(500);
         }
         System.out.println("answers by status: " + Arrays.toString(ANSWERS_BY_STATUS));
+        System.out.println("steps by which: " + Arrays.toString(STEPS_BY_KIND));
+        for (int which = 1; which <= 10; which++) {
+            if (runs >= RUNS && STEPS_BY_KIND[which] < 100) {
+                System.out.println("step " + which + " was hardly seen");
+                wrong++;
+            }
+        }
         for (int why = 0; why <= 8; why++) {
             if (runs >= RUNS && ANSWERS_BY_STATUS[why] < 100) {
                 System.out.println("status " + why + " was hardly seen");
@@ -40,13 +48,22 @@ public final class ScaleShopOracle {
         private final StringBuilder calls = new StringBuilder();
         private final long seed;
         private final int grid;
+        /** Places where roads and lines like to end. */
+        private final int[][] crossroads = new int[4][];
+        /** The kind that most features of this run have; 7: none. */
+        private final int favourite;
         private int used = 0;
+        private int steps = 0;
 
         Session(long seed) {
             this.seed = seed;
             this.random = new Random(seed);
             int[] grids = {5, 8, 12, 20, 40, 1000};
             this.grid = grids[random.nextInt(grids.length)];
+            this.favourite = random.nextInt(4) == 0 ? 3 : random.nextInt(8);
+            for (int i = 0; i < crossroads.length; i++) {
+                crossroads[i] = new int[] {random.nextInt(grid + 1), random.nextInt(grid + 1)};
+            }
         }
 
         void play(int most) {
@@ -75,8 +92,20 @@ public final class ScaleShopOracle {
             return random.nextInt(25) == 0 ? random.nextInt(total + 3) - 1 : random.nextInt(Math.max(1, total));
         }
 
+        /** A number, most often of a feature of the kind that is wanted. */
+        private int numberOf(int kind) {
+            int number = number();
+            for (int tries = 0; tries < 12 && (naive.told(number, 0) != kind || naive.told(number, 5) != 1); tries++) {
+                number = number();
+            }
+            return number;
+        }
+
         private void build() {
             int kind = random.nextInt(30) == 0 ? random.nextInt(9) - 1 : random.nextInt(7);
+            if (favourite < 7 && random.nextInt(3) != 0) {
+                kind = favourite;
+            }
             int rank = random.nextInt(40) == 0 ? random.nextInt(12) - 1 : random.nextInt(4);
             int width = random.nextInt(40) == 0 ? random.nextInt(104) - 1 : random.nextInt(12);
             int town = random.nextInt(40) == 0 ? random.nextInt(12) - 1 : random.nextInt(2);
@@ -104,12 +133,24 @@ public final class ScaleShopOracle {
             if (kind >= 5 && style != 0) {
                 return star(3 + random.nextInt(random.nextInt(4) == 0 ? 9 : 4));
             }
+            if (kind <= 4 && (kind == 3 ? style != 0 : style == 1)) {
+                return between();
+            }
             if (style >= 2) {
                 return stairs(2 + random.nextInt(random.nextInt(5) == 0 ? 12 : 5));
             }
             int[][] places = new int[1 + random.nextInt(6)][];
             for (int i = 0; i < places.length; i++) {
                 places[i] = new int[] {coordinate(), coordinate()};
+            }
+            return places;
+        }
+
+        private int[][] between() {
+            int[][] places = new int[2 + random.nextInt(3)][];
+            for (int i = 0; i < places.length; i++) {
+                boolean end = i == 0 || i == places.length - 1;
+                places[i] = end ? crossroads[random.nextInt(crossroads.length)] : new int[] {coordinate(), coordinate()};
             }
             return places;
         }
@@ -186,13 +227,13 @@ public final class ScaleShopOracle {
                 case 4: case 5: case 6: case 7: case 8:
                     shiftSomething(); break;
                 case 9: call("grow", number()); break;
-                case 10: call("grow", number()); break;
-                case 11: call("square", number(), random.nextInt(3) == 0 ? limit() : 1000000); break;
+                case 10: call("grow", numberOf(6)); break;
+                case 11: call("square", numberOf(5), random.nextInt(3) == 0 ? limit() : 1000000); break;
                 case 12: call("join", number(), number(), joinGap()); break;
-                case 13: call("join", number(), number(), joinGap()); break;
-                case 14: rarely(3, "drop", number()); break;
-                case 15: rarely(4, "few", limit(), random.nextInt(12) == 0 ? random.nextInt(204) - 2 : random.nextInt(4)); break;
-                case 16: rarely(2, "choose"); break;
+                case 13: call("join", numberOf(6), numberOf(6), joinGap()); break;
+                case 14: rarely(12, "drop", number()); break;
+                case 15: rarely(6, "few", limit(), random.nextInt(12) == 0 ? random.nextInt(204) - 2 : random.nextInt(4)); break;
+                case 16: rarely(4, "choose"); break;
                 case 17: rarely(3, "run", limit()); break;
                 case 18: call("undo"); break;
                 case 19: call(random.nextBoolean() ? "undo" : "redo"); break;
@@ -263,6 +304,10 @@ public final class ScaleShopOracle {
             long due = ofNaive(name, a);
             calls.append(name).append(Arrays.toString(a)).append(" -> ").append(got).append('\n');
             ANSWERS_BY_STATUS[naive.status()]++;
+            if (naive.count(5) > steps) {
+                STEPS_BY_KIND[naive.step(naive.count(5), 0)]++;
+            }
+            steps = naive.count(5);
             String sheet = sheetOfShop();
             if (got != due || shop.status() != naive.status() || !sheet.equals(sheetOfNaive())) {
                 wrong++;
