@@ -419,7 +419,9 @@ public final class ScaleShop {
     }
 
     public int side(int x, int y, int feature, int k) {
-        Row row = sheet.rowThere(feature);
+        // The document does not ask that it be there: whoever has such an edge is looked at.
+        Feature f = sheet.find(feature);
+        Row row = f == null ? null : f.now.row;
         if (row == null || k < 0 || k >= row.edges() || !isPlace(x, y)) {
             return 0;
         }

@@ -964,7 +964,7 @@ public final class ScaleShopOracle {
 
         int side(int x, int y, int number, int k) {
             Thing t = get(number);
-            if (t == null || !t.seen() || t.kind == 0 || !place(x, y)) return 0;
+            if (t == null || t.torn || t.kind == 0 || t.places.isEmpty() || !place(x, y)) return 0;
             List<Place[]> edges = parts(t.kind, t.places);
             if (k < 0 || k >= edges.size()) return 0;
             return Long.signum(cross(edges.get(k)[0], edges.get(k)[1], new Place(x, y)));

@@ -1175,6 +1175,14 @@ public final class ScaleShopPromises {
         due("no edge of a ring", x.side(0, 0, ring, 3), 0);
         int point = there(x, POINT, 5, 5);
         due("a POINT has none", x.side(0, 1, point, 0), 0);
+        int open = open(x, LINE);
+        due("OPEN without corners", x.side(0, 1, open, 0), 0);
+        x.corner(open, 300, 300);
+        due("OPEN with one", x.side(0, 1, open, 0), 0);
+        x.corner(open, 310, 300);
+        due("OPEN with an edge", x.side(305, 301, open, 0), 1);
+        x.drop(ring);
+        due("GONE", x.side(105, 105, ring, 2), 1);
         x.tear(line);
         due("TORN", x.side(15, 11, line, 0), 0);
     }
