@@ -1,4 +1,6 @@
+import java.util.ArrayList;
 import java.util.Arrays;
+import java.util.List;
 
 /**
  * Each sentence of the document that names a boundary, in the document's order: at the boundary, and one beyond it on
@@ -58,6 +60,7 @@ public final class ScaleShopEdges {
         simpleRingOfThree();
         rightAngles();
         meetsAtOnePoint();
+        meetsInAllDirections();
         insideByARay();
         areaTwice();
         distanceAsAFraction();
@@ -113,6 +116,7 @@ public final class ScaleShopEdges {
         plainerEnds();
         plainerRound();
         plainerOfThree();
+        stepsOfForty();
         plainerWhereOthersAre();
         smoothIsCut();
         smoothRound();
@@ -139,6 +143,8 @@ public final class ScaleShopEdges {
         fewOfTowns();
         chooseWeight();
         chooseJoined();
+        chooseOrder();
+        chooseOfMany();
         runLimit();
         runAgain();
     }
@@ -159,6 +165,8 @@ public final class ScaleShopEdges {
         clashesLess();
         clashPairs();
         farGreatest();
+        farOfStepsThatAreDone();
+        farBeyondEnds();
         sizeOthers();
         atOthers();
         toldOthers();
@@ -539,6 +547,7 @@ public final class ScaleShopEdges {
         simple("straight on", true, LINE, 10, 10, 20, 10, 30, 10);
         simple("a turn", true, LINE, 10, 10, 20, 10, 10, 11);
         simple("back to the begin", false, LINE, 10, 10, 20, 10, 10, 10);
+        simple("back to the begin, one away", false, LINE, 10, 10, 11, 10, 10, 10);
         simple("back before it", false, LINE, 10, 10, 20, 10, 11, 10);
         simple("back beyond it", false, LINE, 10, 10, 20, 10, 9, 10);
         simple("back aslant", false, LINE, 10, 10, 30, 40, 20, 25);
@@ -585,6 +594,8 @@ public final class ScaleShopEdges {
         simple("CORNER 2 is off by one", false, HOUSE, 10, 10, 30, 10, 31, 20, 10, 20);
         simple("CORNER 3 is off by one", false, HOUSE, 10, 10, 30, 10, 30, 20, 10, 19);
         simple("straight on is no right angle", false, HOUSE, 10, 10, 20, 10, 30, 10, 30, 20, 10, 20);
+        simple("nor is it at CORNER 0", false, HOUSE, 20, 10, 30, 10, 30, 20, 10, 20, 10, 10);
+        simple("nor at the last CORNER", false, HOUSE, 30, 10, 30, 20, 10, 20, 10, 10, 20, 10);
         simple("the same for an AREA", true, AREA, 10, 10, 20, 10, 30, 10, 30, 20, 10, 20);
         simple("right angles inwards", true, HOUSE, 0, 0, 30, 0, 30, 30, 20, 30, 20, 10, 10, 10, 10, 30, 0, 30);
         simple("right angles, not SIMPLE", false, HOUSE, 0, 0, 30, 0, 30, 30, 20, 30, 20, 0, 10, 0, 10, 30, 0, 30);
@@ -617,6 +628,44 @@ public final class ScaleShopEdges {
         no("one before that", y.meets(ring, there(y, LINE, 160, 105, 160, 109)));
     }
 
+    /** Both LINES told from both ends, and asked in both orders. */
+    private static void meetsEachWay(String what, boolean want, int[] one, int[] other) {
+        ScaleShop x = new ScaleShop();
+        int[] ones = {there(x, LINE, one), there(x, LINE, one[2], one[3], one[0], one[1])};
+        int[] others = {there(x, LINE, other), there(x, LINE, other[2], other[3], other[0], other[1])};
+        for (int a : ones) {
+            for (int b : others) {
+                due(what, number(x.meets(a, b)), number(want));
+                due(what, number(x.meets(b, a)), number(want));
+            }
+        }
+    }
+
+    private static void meetsInAllDirections() {
+        sentence = "MEETS of two: their SETS have a point in common";
+        int[][] ways = {{5, 0}, {5, 2}, {5, 5}, {2, 5}, {0, 5}, {-2, 5}, {-5, 5}, {-5, 2}, {-5, 0}, {-5, -2}, {-5, -5},
+            {-2, -5}, {0, -5}, {2, -5}, {5, -5}, {5, -2}};
+        for (int[] a : ways) {
+            int[] bar = {500 - 2 * a[0], 500 - 2 * a[1], 500, 500};
+            int[] longer = {500 - 2 * a[0], 500 - 2 * a[1], 500 + 2 * a[0], 500 + 2 * a[1]};
+            for (int[] b : ways) {
+                boolean apart = a[0] * b[1] != a[1] * b[0];
+                int[] ray = {500, 500, 500 + b[0], 500 + b[1]};
+                int[] off = {500 + b[0], 500 + b[1], 500 + 2 * b[0], 500 + 2 * b[1]};
+                String what = Arrays.toString(a) + " and " + Arrays.toString(b);
+                meetsEachWay("end at end " + what, true, bar, ray);
+                meetsEachWay("end on the middle " + what, true, longer, ray);
+                boolean back = !apart && a[0] * b[0] + a[1] * b[1] < 0;
+                meetsEachWay("beside the end " + what, back, bar, off);
+                meetsEachWay("beside the middle " + what, !apart, longer, off);
+            }
+        }
+        int[] slant = {0, 0, 999, 1000};
+        meetsEachWay("just below its line", false, slant, new int[] {1, 1, 1000, 1});
+        meetsEachWay("just above its line", false, slant, new int[] {998, 999, 0, 999});
+        meetsEachWay("over its line by one", true, slant, new int[] {998, 999, 1000, 999});
+    }
+
     private static void insideByARay() {
         sentence = "INSIDE: it is not of its SET, and a ray from it crosses the EDGES an odd number of times";
         ScaleShop x = new ScaleShop();
@@ -633,6 +682,13 @@ public final class ScaleShopEdges {
             {350, 310, 1}, {450, 310, 2}, {550, 310, 1}, {450, 309, 0}, {450, 311, 1}, {350, 320, 2}, {350, 321, 0}};
         for (int[] each : level) {
             due("inside(" + each[0] + ", " + each[1] + ")", x.inside(each[0], each[1], flat), each[2]);
+        }
+        int[][] slanted = {{0, 0, 999, 1000, 1000, 0}, {1000, 0, 999, 1000, 0, 0}, {0, 0, 999, 1000, 0, 1000},
+            {0, 1000, 999, 1000, 0, 0}};
+        for (int i = 0; i < slanted.length; i++) {
+            int ring = there(x, AREA, slanted[i]);
+            due("just above the slanted EDGE of " + i, x.inside(998, 999, ring), i < 2 ? 0 : 1);
+            due("just below the slanted EDGE of " + i, x.inside(1, 1, ring), i < 2 ? 1 : 0);
         }
     }
 
@@ -677,6 +733,25 @@ public final class ScaleShopEdges {
         due("over its end", z.near(bar, there(z, POINT, 300, 93), 0), 49);
         due("beyond its end", z.near(bar, there(z, POINT, 301, 93), 0), 50);
         due("from inside a RING", z.near(house(z, 400, 100, 500, 200), there(z, POINT, 497, 150), 0), 9);
+        distanceBesideTheEnds();
+    }
+
+    private static void distanceBesideTheEnds() {
+        ScaleShop x = new ScaleShop();
+        int slant = there(x, LINE, 100, 100, 102, 103);
+        int[][] points = {{103, 98, 13, 1}, {102, 99, 64, 13}, {100, 104, 64, 13}, {99, 105, 13, 1}};
+        for (int[] p : points) {
+            int point = there(x, POINT, p[0], p[1]);
+            due("over, from " + p[0], x.near(slant, point, 0), p[2]);
+            due("under, from " + p[0], x.near(point, slant, 1), p[3]);
+        }
+        int bar = there(x, LINE, 200, 200, 300, 200);
+        int[][] lines = {{250, 210, 250, 300}, {250, 300, 250, 210}, {250, 190, 240, 100}, {240, 100, 250, 190}};
+        for (int[] line : lines) {
+            int other = there(x, LINE, line);
+            due("its CORNER is nearest to the middle", x.near(bar, other, 0), 100);
+            due("the same from the other", x.near(other, bar, 0), 100);
+        }
     }
 
     // LAWFUL
@@ -725,7 +800,28 @@ public final class ScaleShopEdges {
             int line = there(y, LINE, 100, 100, 110, 120, 120, 100, 200, 60, 200, 50, 110, 50, 110, tail[0]);
             due("plainer() over an end at " + tail[0], y.plainer(line, 400), tail[1]);
             due("status", y.status(), tail[1] == NONE ? 8 : 0);
+            ScaleShop z = new ScaleShop();
+            int back = there(z, LINE, 110, tail[0], 110, 50, 200, 50, 200, 60, 120, 100, 110, 120, 100, 100);
+            due("plainer() over a begin at " + tail[0], z.plainer(back, 400), tail[1]);
         }
+        int[][] tips = {{10, NONE}, {19, NONE}, {20, NONE}, {21, 1}};
+        for (int[] tip : tips) {
+            int[] ring = {20, 0, 100, 0, 100, 30, tip[0], 50, 100, 70, 100, 100, 20, 100, 0, 50};
+            for (int begin = 0; begin < 8; begin++) {
+                ScaleShop y = new ScaleShop();
+                int area = there(y, AREA, turned(ring, begin));
+                due("plainer() over a bay to " + tip[0] + ", begun at " + begin, y.plainer(area, 2000), tip[1]);
+            }
+        }
+    }
+
+    /** The same RING, begun at another CORNER. */
+    private static int[] turned(int[] ring, int begin) {
+        int[] places = new int[ring.length];
+        for (int i = 0; i < ring.length; i++) {
+            places[i] = ring[(i + 2 * begin) % ring.length];
+        }
+        return places;
     }
 
     private static void lawMeets() {
@@ -1583,6 +1679,51 @@ public final class ScaleShopEdges {
         refused(x, "three again", x.plainer(four, GREATEST), 8);
     }
 
+    /** An arch of 40 CORNERS, bent everywhere. */
+    private static int[] bow() {
+        int[] places = new int[80];
+        for (int i = 0; i < 40; i++) {
+            places[2 * i] = 20 * i;
+            places[2 * i + 1] = 100 + i * (39 - i);
+        }
+        return places;
+    }
+
+    private static void stepsOfForty() {
+        sentence = "LINES have 2 .. 40, RINGS 3 .. 40 CORNERS: STEPS of such with 40";
+        ScaleShop x = new ScaleShop();
+        int line = there(x, RIVER, bow());
+        due("all but the ends go", x.plainer(line, GREATEST), 38);
+        row(x, "the ends", line, 0, 100, 780, 100);
+        due("the peak went, too", x.far(line, 0), 380 * 380);
+        due("undo()", x.undo(), 1);
+        row(x, "all are back", line, bow());
+        granted(x, "smooth()", x.smooth(line));
+        due("CORNERS", x.told(line, 4), 40);
+        granted(x, "shift()", x.shift(line, 38, 0, 30, 20));
+        due("the last but one", x.at(line, 38, 0), 760);
+        ScaleShop y = new ScaleShop();
+        int area = there(y, AREA, bow());
+        due("all but three go", y.plainer(area, GREATEST), 37);
+        due("CORNERS", y.told(area, 4), 3);
+        y.undo();
+        granted(y, "smooth()", y.smooth(area));
+        granted(y, "shift()", y.shift(area, 39, 3, 3, 20));
+        due("CORNERS", y.told(area, 4), 40);
+        ScaleShop z = new ScaleShop();
+        int house = open(z, HOUSE);
+        for (int k = 0; k < 38; k++) {
+            z.corner(house, 100 + 10 * ((k + 1) / 2), 100 + 10 * (k / 2));
+        }
+        z.corner(house, 290, 300);
+        z.corner(house, 100, 300);
+        granted(z, "done()", z.done(house));
+        granted(z, "shift() of a HOUSE", z.shift(house, 39, 5, 7, 0));
+        due("its last CORNER", z.at(house, 39, 0), 105);
+        granted(z, "grow()", z.grow(house));
+        due("its last CORNER", z.at(house, 39, 1), 507);
+    }
+
     private static void plainerWhereOthersAre() {
         sentence = "Promise 6: at which no other FEATURE that is THERE has a point of its SET";
         int[][] bars = {{149, 1}, {150, NONE}, {151, 1}};
@@ -1591,6 +1732,10 @@ public final class ScaleShopEdges {
             int arch = there(x, LINE, 100, 100, 150, 140, 200, 100);
             there(x, LINE, bar[0], 50, bar[0], 300);
             due("a LINE through " + bar[0], x.plainer(arch, 4000), bar[1]);
+            ScaleShop y = new ScaleShop();
+            there(y, LINE, bar[0], 50, bar[0], 300);
+            int later = there(y, LINE, 100, 100, 150, 140, 200, 100);
+            due("a LINE before it through " + bar[0], y.plainer(later, 4000), bar[1]);
         }
         ScaleShop x = new ScaleShop();
         int arch = there(x, LINE, 100, 100, 150, 140, 200, 100);
@@ -1911,6 +2056,14 @@ public final class ScaleShopEdges {
         torn(x, POINT, 15, 6);
         gone(x, POINT, 15, 7);
         due("OPEN, TORN and GONE ones", x.join(0, 1, 10), 5);
+        int[][] befores = {{15, 10, NONE}, {15, 11, 3}};
+        for (int[] p : befores) {
+            ScaleShop z = new ScaleShop();
+            there(z, POINT, p[0], p[1]);
+            house(z, 0, 0, 10, 10);
+            house(z, 20, 0, 30, 10);
+            due("a POINT before them at " + p[1], z.join(1, 2, 10), p[2]);
+        }
         ScaleShop y = new ScaleShop();
         house(y, 100, 100, 200, 200);
         there(y, HOUSE, box(120, 120, 110, 110));
@@ -2021,6 +2174,7 @@ public final class ScaleShopEdges {
         due("one STEP", x.count(5), 1);
         due("how many", x.step(1, 2), 10);
         due("its FEATURE", x.step(1, 1), NONE);
+        due("GONE by it", x.told(1, 7), 1);
         refused(x, "none more", x.few(GREATEST, 1), 8);
         due("undo()", x.undo(), 1);
         due("THERE again", x.count(1), 20);
@@ -2113,9 +2267,71 @@ public final class ScaleShopEdges {
         there(y, ROAD, 0, 0, 4, 4, 10, 0);
         there(y, ROAD, 10, 0, 6, 6, 0, 0);
         due("two at once", y.choose(), 2);
+        due("GONE by it", y.told(2, 7), 1);
+        due("GONE by it", y.told(3, 7), 1);
         due("one STEP", y.count(5), 1);
         due("how many", y.step(1, 2), 2);
         due("its FEATURE", y.step(1, 1), NONE);
+    }
+
+    private static void chooseOrder() {
+        sentence = "Promise 14: By WEIGHT, then number";
+        int[] lengths = {20, 22, 24, 26};
+        for (int order = 0; order < 24; order++) {
+            ArrayList<Integer> left = new ArrayList<>(List.of(0, 1, 2, 3));
+            ScaleShop x = new ScaleShop();
+            int lightest = 0;
+            int rest = order;
+            for (int i = 4; i >= 1; i--) {
+                int which = left.remove(rest % i);
+                rest /= i;
+                int number = there(x, ROAD, roadOf(lengths[which]));
+                lightest = which == 0 ? number : lightest;
+            }
+            due("order " + order, x.choose(), 3);
+            due("the lightest one stays", x.told(lightest, 5), 1);
+        }
+        // A ring of four: only the heaviest one goes, wherever it stands.
+        int[][] ring = {{100, 100, 200, 100}, {200, 100, 200, 201}, {200, 201, 100, 202}, {100, 202, 100, 100}};
+        int[] weights = {100, 101, 101, 102};
+        for (int begin = 0; begin < 4; begin++) {
+            ScaleShop x = new ScaleShop();
+            int heaviest = 0;
+            for (int i = 0; i < 4; i++) {
+                int number = there(x, ROAD, ring[(begin + i) % 4]);
+                due("length", x.size(number), weights[(begin + i) % 4]);
+                heaviest = (begin + i) % 4 == 3 ? number : heaviest;
+            }
+            due("one closes the ring", x.choose(), 1);
+            due("the heaviest", x.told(heaviest, 5), 2);
+        }
+        int[][] ends = {{10, 0, 1}, {11, 0, NONE}, {10, 1, NONE}};
+        for (int[] end : ends) {
+            ScaleShop x = new ScaleShop();
+            there(x, ROAD, 0, 0, 10, 0);
+            there(x, ROAD, 0, 0, 5, 5, end[0], end[1]);
+            due("end at " + end[0] + ", " + end[1], x.choose(), end[2]);
+            ScaleShop y = new ScaleShop();
+            there(y, ROAD, 10, 0, 0, 0);
+            there(y, ROAD, end[0], end[1], 5, 5, 0, 0);
+            due("begin at " + end[0] + ", " + end[1], y.choose(), end[2]);
+        }
+    }
+
+    private static void chooseOfMany() {
+        sentence = "Promise 14: as many ROADS as there can be";
+        ScaleShop x = new ScaleShop();
+        for (int i = 0; i < 125; i++) {
+            there(x, ROAD, 0, i, 100 + i % 2, i + 1 - i % 2);
+        }
+        refused(x, "none is joined already", x.choose(), 8);
+        ScaleShop y = new ScaleShop();
+        for (int i = 0; i < 124; i++) {
+            there(y, ROAD, 5 * i, 0, 5 * i + 5, 0);
+        }
+        int closing = there(y, ROAD, 620, 0, 300, 300, 0, 0);
+        due("a chain of 124, and one that closes it", y.choose(), 1);
+        due("that goes", y.told(closing, 5), 2);
     }
 
     private static void runLimit() {
@@ -2428,7 +2644,8 @@ public final class ScaleShopEdges {
             + "(0 .. 200)";
         // Two widths, how far two POINTS are apart, the gap, and whether they clash.
         int[][] cases = {{0, 0, 1, 0, 0}, {1, 0, 1, 0, 0}, {1, 1, 1, 0, 0}, {2, 1, 1, 0, 1}, {2, 2, 2, 0, 0},
-            {3, 2, 2, 0, 1}, {0, 0, 1, 1, 0}, {0, 1, 1, 1, 1}, {0, 0, 1, 2, 1}, {100, 100, 99, 0, 1}, {100, 100, 100, 0, 0},
+            {3, 2, 2, 0, 1}, {0, 0, 1, 1, 0}, {0, 1, 1, 1, 1}, {0, 0, 1, 2, 1}, {100, 100, 99, 0, 1},
+            {100, 100, 100, 0, 0},
             {100, 100, 299, 200, 1}, {100, 100, 300, 200, 0}, {99, 100, 299, 200, 1}, {98, 100, 299, 200, 0},
             {4, 4, 0, 0, 0}, {0, 0, 200, 200, 0}, {0, 0, 199, 200, 1}, {5, 5, 1, -1, NONE}, {5, 5, 1, 201, NONE},
             {5, 5, 1, LEAST, NONE}, {5, 5, 1, GREATEST, NONE}};
@@ -2444,7 +2661,15 @@ public final class ScaleShopEdges {
             ScaleShop x = new ScaleShop();
             made(x, LINE, 0, roof[0], 0, 0, 0, 10, 10, 20, 0);
             made(x, POINT, 0, 0, 0, 10, 5);
-            due("width " + roof[0], x.clashes(0), roof[1] == 0 ? 0 : 1);
+            due("width " + roof[0], x.clashes(0), roof[1]);
+        }
+        // The POINT is 5 away from the LINE, though their boxes have points in common.
+        int[][] slants = {{4, 5, 0}, {5, 5, 0}, {5, 6, 1}};
+        for (int[] slant : slants) {
+            ScaleShop x = new ScaleShop();
+            made(x, LINE, 0, slant[0], 0, 0, 0, 30, 40);
+            made(x, POINT, 0, slant[1], 0, 19, 17);
+            due("widths " + slant[0] + " and " + slant[1], x.clashes(0), slant[2]);
         }
     }
 
@@ -2481,6 +2706,14 @@ public final class ScaleShopEdges {
         due("without a TORN one", x.clash(0, 0, 1), 3);
         due("one pair", x.clashes(200), 1);
         due("no second one", x.clash(200, 1, 0), NONE);
+        ScaleShop y = new ScaleShop();
+        for (int i = 0; i < 30; i++) {
+            made(y, POINT, 0, 100, 0, 100 + i, 100);
+        }
+        due("more pairs than FEATURES", y.clashes(0), 435);
+        due("the last one", y.clash(0, 434, 0), 28);
+        due("the last one", y.clash(0, 434, 1), 29);
+        due("none behind it", y.clash(0, 435, 0), NONE);
     }
 
     private static void farGreatest() {
@@ -2528,6 +2761,51 @@ public final class ScaleShopEdges {
         due("SMOOTH takes none", number(y.smooth(area)), 1);
         due("HOUSE", y.far(house(y, 500, 500, 510, 510), 1), 1);
         due("POINT", y.far(there(y, POINT, 700, 700), 1), 1);
+    }
+
+    private static void farOfStepsThatAreDone() {
+        sentence = "Promise 24: the CORNERS that went from it by PLAINER (by STEPS that are done)";
+        ScaleShop x = new ScaleShop();
+        int line = there(x, LINE, 0, 100, 10, 101, 20, 100, 30, 109, 40, 100);
+        x.plainer(line, 20);
+        due("1 away", x.far(line, 0), 1);
+        x.plainer(line, 400);
+        row(x, "the ends", line, 0, 100, 40, 100);
+        due("9 away", x.far(line, 0), 81);
+        x.undo();
+        due("that one is undone", x.far(line, 0), 1);
+        x.undo();
+        due("both are undone", x.far(line, 0), 0);
+        due("both at once", x.plainer(line, 400), 3);
+        due("9 away", x.far(line, 0), 81);
+        x.undo();
+        due("the first alone", x.plainer(line, 20), 1);
+        due("what was undone does not count", x.far(line, 0), 1);
+        x.drop(line);
+        x.undo();
+        due("1 away still", x.far(line, 0), 1);
+        ScaleShop y = new ScaleShop();
+        int area = there(y, AREA, 100, 100, 150, 95, 200, 100, 205, 150, 200, 200, 150, 210, 100, 200);
+        due("three of an AREA", y.plainer(area, 1000), 3);
+        due("the greatest one", y.far(area, 0), 100);
+        due("a whole number", y.far(area, 1), 1);
+    }
+
+    private static void farBeyondEnds() {
+        sentence = "Promise 24: their distances from its SET as it is now";
+        int[][] peaks = {{80, 110, 500, 1}, {90, 110, 200, 1}, {100, 110, 100, 1}, {150, 110, 100, 1},
+            {200, 110, 100, 1}, {210, 110, 200, 1}, {220, 110, 500, 1}};
+        for (int[] peak : peaks) {
+            ScaleShop x = new ScaleShop();
+            int line = there(x, LINE, 100, 100, peak[0], peak[1], 200, 100);
+            due("it went", x.plainer(line, GREATEST), 1);
+            due("from " + peak[0] + ", over", x.far(line, 0), peak[2]);
+            due("from " + peak[0] + ", under", x.far(line, 1), peak[3]);
+            ScaleShop y = new ScaleShop();
+            int up = there(y, LINE, 100, 100, peak[1], peak[0], 100, 200);
+            due("it went", y.plainer(up, GREATEST), 1);
+            due("upwards, over", y.far(up, 0), peak[2]);
+        }
     }
 
     private static void sizeOthers() {
