@@ -7,7 +7,8 @@ import java.util.Random;
 /**
  * Random runs of calls, each answer compared with that of a slow second reading of the document, which shares
  * neither code nor ways of reckoning with the class: it keeps whole copies of the sheet for undo, looks at every
- * pair without any shortcut, and reckons distances with fractions of any size.
+ * pair without any shortcut, and reckons distances with fractions of any size. A run has at most some 500 calls that
+ * act; what only tells is asked besides, more often than the document allows, since it changes nothing.
  */
 public final class ScaleShopOracle {
     private static final int RUNS = 3000;
