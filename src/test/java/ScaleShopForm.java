@@ -1,3 +1,11 @@
+import com.sun.source.tree.ClassTree;
+import com.sun.source.tree.MethodInvocationTree;
+import com.sun.source.tree.MethodTree;
+import com.sun.source.tree.NewClassTree;
+import com.sun.source.tree.Tree;
+import com.sun.source.util.JavacTask;
+import com.sun.source.util.TreePathScanner;
+import com.sun.source.util.Trees;
 import java.lang.management.ManagementFactory;
 import java.lang.reflect.Constructor;
 import java.lang.reflect.Field;
@@ -6,11 +14,19 @@ import java.lang.reflect.Modifier;
 import java.nio.file.Files;
 import java.nio.file.Path;
 import java.util.Arrays;
+import java.util.LinkedHashMap;
+import java.util.LinkedHashSet;
 import java.util.List;
+import java.util.Map;
 import java.util.Random;
+import java.util.Set;
 import java.util.TreeSet;
 import java.util.regex.Matcher;
 import java.util.regex.Pattern;
+import javax.lang.model.element.Element;
+import javax.tools.JavaCompiler;
+import javax.tools.StandardJavaFileManager;
+import javax.tools.ToolProvider;
 
 /** The form that LANGUAGE.md asks for, as far as a test can see it, and calls with numbers of all sizes. */
 public final class ScaleShopForm {
@@ -31,6 +47,7 @@ public final class ScaleShopForm {
         classesInside();
         sourceIsWithinTheRules();
         methodsAreShort();
+        callsAreNotDeep();
         nothingIsThrown();
         roomIsKept();
         System.out.println(wrong == 0 ? "the form is as due" : wrong + " things are not as due");
@@ -148,6 +165,107 @@ public final class ScaleShopForm {
                 begin = -1;
             }
             ask(lines[i].length() <= 120, "line " + (i + 1) + " is long");
+        }
+    }
+
+    /** Who calls whom, the library's methods too; a constructor's calls are those of its class's fields as well. */
+    private static final class Calls extends TreePathScanner<Void, Void> {
+        private final Map<String, Set<String>> made = new LinkedHashMap<>();
+        private final Trees trees;
+        private String method = "";
+        private String type = "";
+
+        Calls(Trees trees) {
+            this.trees = trees;
+        }
+
+        private static String name(Element called) {
+            return called.getEnclosingElement() + "." + called;
+        }
+
+        @Override
+        public Void visitClass(ClassTree tree, Void nothing) {
+            String outerType = type;
+            String outerMethod = method;
+            type = trees.getElement(getCurrentPath()).toString();
+            method = type + ".fields";
+            super.visitClass(tree, nothing);
+            type = outerType;
+            method = outerMethod;
+            return null;
+        }
+
+        @Override
+        public Void visitMethod(MethodTree tree, Void nothing) {
+            String outer = method;
+            method = name(trees.getElement(getCurrentPath()));
+            made.computeIfAbsent(method, key -> new LinkedHashSet<>());
+            if (tree.getName().contentEquals("<init>")) {
+                made.get(method).addAll(made.getOrDefault(type + ".fields", Set.of()));
+            }
+            super.visitMethod(tree, nothing);
+            method = outer;
+            return null;
+        }
+
+        private void note() {
+            made.computeIfAbsent(method, key -> new LinkedHashSet<>()).add(name(trees.getElement(getCurrentPath())));
+        }
+
+        @Override
+        public Void visitMethodInvocation(MethodInvocationTree tree, Void nothing) {
+            // The call of super() that javac puts into each constructor is none of ours.
+            if (!tree.getMethodSelect().toString().equals("super")) {
+                note();
+            }
+            return super.visitMethodInvocation(tree, nothing);
+        }
+
+        @Override
+        public Void visitNewClass(NewClassTree tree, Void nothing) {
+            note();
+            return super.visitNewClass(tree, nothing);
+        }
+
+        /** The longest chain of calls that begins with one; a method that comes again ends the chain. */
+        String deepest(String from, String before) {
+            String chain = before.isEmpty() ? from : before + " > " + from;
+            if (List.of(before.split(" > ")).contains(from)) {
+                return chain + " (again)";
+            }
+            String longest = chain;
+            for (String called : made.getOrDefault(from, Set.of())) {
+                String other = deepest(called, chain);
+                if (other.endsWith("(again)")) {
+                    return other;
+                }
+                longest = other.split(" > ").length > longest.split(" > ").length ? other : longest;
+            }
+            return longest;
+        }
+    }
+
+    private static void callsAreNotDeep() throws Exception {
+        JavaCompiler compiler = ToolProvider.getSystemJavaCompiler();
+        try (StandardJavaFileManager files = compiler.getStandardFileManager(null, null, null)) {
+            JavacTask task = (JavacTask) compiler.getTask(null, files, null, List.of("-proc:none"), null,
+                files.getJavaFileObjects("src/main/java/ScaleShop.java"));
+            Calls calls = new Calls(Trees.instance(task));
+            Iterable<? extends Tree> units = task.parse();
+            task.analyze();
+            for (Tree unit : units) {
+                calls.scan(unit, null);
+            }
+            String longest = "";
+            for (String from : calls.made.keySet()) {
+                String chain = calls.deepest(from, "");
+                ask(!chain.endsWith("(again)"), "a method comes back to itself: " + chain);
+                longest = chain.split(" > ").length > longest.split(" > ").length ? chain : longest;
+            }
+            int depth = longest.split(" > ").length;
+            System.out.println("calls go " + depth + " deep: " + longest);
+            ask(calls.made.size() > 100 && depth > 1, "the calls were not found");
+            ask(depth <= 8, "calls go too deep");
         }
     }
 
